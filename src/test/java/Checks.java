@@ -62,7 +62,7 @@ final class Checks {
     /** All that an object tells, in one row. */
     static long[] answers(Tidewater x) {
         int packets = x.packets();
-        long[] row = new long[64 + 11 * packets];
+        long[] row = new long[66 + 11 * packets];
         int n = 0;
         row[n++] = x.now();
         row[n++] = x.credit();
