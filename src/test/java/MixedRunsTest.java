@@ -1,6 +1,6 @@
 /** Long runs of mixed calls, each held against Plain after every call. */
 final class MixedRunsTest {
-    private static final int RUNS = 400;
+    private static final int RUNS = 200;
     private static final int CALLS = 512;
 
     private long seed;
