@@ -1144,12 +1144,8 @@ public final class Tidewater {
                     acknowledge(packetAt(number));
                 }
             }
-            if (isMeasure) {
-                routeOf(greatest.path).measure(network.now - greatest.sentAt);
-            }
-            if (greatest != null && ack.marked > marksKnown) {
-                marksKnown = ack.marked;
-                routeOf(greatest.path).growth.harm(greatest.number, NONE, sent, network.now);
+            if (greatest != null) {
+                hearOfGreatest(greatest, isMeasure, ack.marked);
             }
             takeCredits(ack);
             route0.doublings = 0;
@@ -1158,6 +1154,18 @@ public final class Tidewater {
             findLosses(route1, true);
         }
 
+        private void hearOfGreatest(Packet packet, boolean isMeasure, int marked) {
+            Route route = routeOf(packet.path);
+            if (isMeasure) {
+                route.measure(network.now - packet.sentAt);
+            }
+            if (marked > marksKnown) {
+                marksKnown = marked;
+                route.growth.harm(packet.number, NONE, sent, network.now);
+            }
+        }
+
+        /** A lost one has a greater place acknowledged behind it already. */
         private void acknowledge(Packet packet) {
             if (packet == null) {
                 return;
@@ -1176,7 +1184,6 @@ public final class Tidewater {
                     streams[packet.stream].acknowledge(packet.first, packet.many);
                 }
                 route.growth.takeBackHarm(packet.number);
-                route.greatestPlace = Math.max(route.greatestPlace, packet.place);
             }
         }
 
@@ -1203,8 +1210,10 @@ public final class Tidewater {
         }
 
         private Packet lowestInFlight(Route route) {
-            while (firstOpen < sent && firstOpen < MOST_PACKETS && packets[firstOpen].known != IN_FLIGHT) {
+            Packet open = packetAt(firstOpen);
+            while (firstOpen < sent && open != null && open.known != IN_FLIGHT) {
                 firstOpen++;
+                open = packetAt(firstOpen);
             }
             for (int i = firstOpen; i < sent && route.inFlight > 0; i++) {
                 Packet packet = packetAt(i);

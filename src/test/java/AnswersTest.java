@@ -1,7 +1,5 @@
 /** Promises 18 to 27: what the object tells of itself. */
 final class AnswersTest {
-    private static final Class<IndexOutOfBoundsException> INDEX = IndexOutOfBoundsException.class;
-    private static final Class<IllegalArgumentException> ARGUMENT = IllegalArgumentException.class;
     private static final int[] OUTSIDE = {-1, Integer.MIN_VALUE, Integer.MAX_VALUE};
 
     private AnswersTest() {
@@ -18,16 +16,6 @@ final class AnswersTest {
         findsAnew();
         refuses();
         Checks.end("AnswersTest");
-    }
-
-    /** Established at 9, with a measure of 9, and nothing lost. */
-    private static Tidewater established() {
-        Tidewater x = new Tidewater();
-        x.setPath(0, 4, 9, 30, 30);
-        x.setPath(1, 4, 9, 30, 30);
-        x.connect(-1);
-        x.tick(9);
-        return x;
     }
 
     private static void tellsOfNow() {
@@ -61,7 +49,7 @@ final class AnswersTest {
     }
 
     private static void tellsOfPaths() {
-        Tidewater x = established();
+        Tidewater x = Checks.established();
         long[] first = {160, 999999, 0, 72, 18, 9, 9, 1, 0};
         for (int what = 0; what <= 8; what++) {
             Checks.due("path(0, " + what + ")", x.path(0, what), first[what]);
@@ -86,7 +74,7 @@ final class AnswersTest {
     }
 
     private static void tellsOfStreams() {
-        Tidewater x = established();
+        Tidewater x = Checks.established();
         x.write(2, 55);
         x.lose(0, true, 1);
         x.tick(6);
@@ -111,7 +99,7 @@ final class AnswersTest {
         x.tick(4);
         Checks.due("credit", x.stream(2, 4), 53);
         Checks.due("credit of all", x.credit(), 113);
-        Tidewater y = established();
+        Tidewater y = Checks.established();
         y.write(0, 40);
         y.lose(0, true, 1);
         y.tick(6);
@@ -121,7 +109,7 @@ final class AnswersTest {
     }
 
     private static void tellsOfPackets() {
-        Tidewater x = established();
+        Tidewater x = Checks.established();
         x.write(0, 14);
         x.write(3, 3);
         x.lose(0, true, 1);
@@ -175,7 +163,7 @@ final class AnswersTest {
     }
 
     private static void countsAll() {
-        Tidewater x = established();
+        Tidewater x = Checks.established();
         x.write(0, 40);
         x.late(0, 1, 7);
         x.tick(1);
@@ -207,7 +195,7 @@ final class AnswersTest {
     }
 
     private static void findsAnew() {
-        Tidewater x = established();
+        Tidewater x = Checks.established();
         x.check(1);
         x.tick(9);
         x.use(2);
@@ -235,40 +223,40 @@ final class AnswersTest {
     }
 
     private static void refuses() {
-        Tidewater x = established();
+        Tidewater x = Checks.established();
         x.write(0, 20);
         x.tick(1);
         for (int outside : OUTSIDE) {
             refusesOutside(x, outside);
         }
-        Checks.refused("state", x, ARGUMENT, () -> x.state(5));
-        Checks.refused("path", x, ARGUMENT, () -> x.path(1, 9));
-        Checks.refused("stream", x, ARGUMENT, () -> x.stream(3, 7));
-        Checks.refused("packet", x, ARGUMENT, () -> x.packet(1, 11));
-        Checks.refused("count", x, ARGUMENT, () -> x.count(6));
-        Checks.refused("path", x, INDEX, () -> x.path(2, 9));
-        Checks.refused("stream", x, INDEX, () -> x.stream(4, 7));
-        Checks.refused("packet", x, INDEX, () -> x.packet(2, 11));
-        Checks.refused("packet", x, INDEX, () -> x.packet(2, 0));
-        Checks.refused("packet", x, INDEX, () -> x.packet(400, 0));
-        Checks.refused("inFlightAnew", x, INDEX, () -> x.inFlightAnew(2));
-        Checks.refused("gotAnew", x, INDEX, () -> x.gotAnew(4));
-        Checks.refused("packet", new Tidewater(), INDEX, () -> new Tidewater().packet(0, 0));
+        Checks.refused("state", x, Checks.ARGUMENT, () -> x.state(5));
+        Checks.refused("path", x, Checks.ARGUMENT, () -> x.path(1, 9));
+        Checks.refused("stream", x, Checks.ARGUMENT, () -> x.stream(3, 7));
+        Checks.refused("packet", x, Checks.ARGUMENT, () -> x.packet(1, 11));
+        Checks.refused("count", x, Checks.ARGUMENT, () -> x.count(6));
+        Checks.refused("path", x, Checks.INDEX, () -> x.path(2, 9));
+        Checks.refused("stream", x, Checks.INDEX, () -> x.stream(4, 7));
+        Checks.refused("packet", x, Checks.INDEX, () -> x.packet(2, 11));
+        Checks.refused("packet", x, Checks.INDEX, () -> x.packet(2, 0));
+        Checks.refused("packet", x, Checks.INDEX, () -> x.packet(400, 0));
+        Checks.refused("inFlightAnew", x, Checks.INDEX, () -> x.inFlightAnew(2));
+        Checks.refused("gotAnew", x, Checks.INDEX, () -> x.gotAnew(4));
+        Checks.refused("packet", new Tidewater(), Checks.INDEX, () -> new Tidewater().packet(0, 0));
     }
 
     private static void refusesOutside(Tidewater x, int outside) {
-        Checks.refused("state", x, ARGUMENT, () -> x.state(outside));
-        Checks.refused("path", x, INDEX, () -> x.path(outside, 0));
-        Checks.refused("path", x, INDEX, () -> x.path(outside, outside));
-        Checks.refused("path", x, ARGUMENT, () -> x.path(0, outside));
-        Checks.refused("stream", x, INDEX, () -> x.stream(outside, 0));
-        Checks.refused("stream", x, INDEX, () -> x.stream(outside, outside));
-        Checks.refused("stream", x, ARGUMENT, () -> x.stream(0, outside));
-        Checks.refused("packet", x, INDEX, () -> x.packet(outside, 0));
-        Checks.refused("packet", x, INDEX, () -> x.packet(outside, outside));
-        Checks.refused("packet", x, ARGUMENT, () -> x.packet(0, outside));
-        Checks.refused("count", x, ARGUMENT, () -> x.count(outside));
-        Checks.refused("inFlightAnew", x, INDEX, () -> x.inFlightAnew(outside));
-        Checks.refused("gotAnew", x, INDEX, () -> x.gotAnew(outside));
+        Checks.refused("state", x, Checks.ARGUMENT, () -> x.state(outside));
+        Checks.refused("path", x, Checks.INDEX, () -> x.path(outside, 0));
+        Checks.refused("path", x, Checks.INDEX, () -> x.path(outside, outside));
+        Checks.refused("path", x, Checks.ARGUMENT, () -> x.path(0, outside));
+        Checks.refused("stream", x, Checks.INDEX, () -> x.stream(outside, 0));
+        Checks.refused("stream", x, Checks.INDEX, () -> x.stream(outside, outside));
+        Checks.refused("stream", x, Checks.ARGUMENT, () -> x.stream(0, outside));
+        Checks.refused("packet", x, Checks.INDEX, () -> x.packet(outside, 0));
+        Checks.refused("packet", x, Checks.INDEX, () -> x.packet(outside, outside));
+        Checks.refused("packet", x, Checks.ARGUMENT, () -> x.packet(0, outside));
+        Checks.refused("count", x, Checks.ARGUMENT, () -> x.count(outside));
+        Checks.refused("inFlightAnew", x, Checks.INDEX, () -> x.inFlightAnew(outside));
+        Checks.refused("gotAnew", x, Checks.INDEX, () -> x.gotAnew(outside));
     }
 }

@@ -5,10 +5,26 @@ final class Checks {
         void run();
     }
 
+    static final Class<IndexOutOfBoundsException> INDEX = IndexOutOfBoundsException.class;
+    static final Class<IllegalArgumentException> ARGUMENT = IllegalArgumentException.class;
+    static final Class<IllegalStateException> STATE = IllegalStateException.class;
+
     private static int wrong = 0;
     private static int checked = 0;
 
     private Checks() {
+    }
+
+    /** Established at 9, with a measure of 9, and nothing lost; the path 1 is like the path 0. */
+    static Tidewater established() {
+        Tidewater x = new Tidewater();
+        x.setPath(0, 4, 9, 30, 30);
+        x.setPath(1, 4, 9, 30, 30);
+        x.connect(-1);
+        x.tick(9);
+        due("established", x.state(0), 2);
+        due("measured", x.path(0, 3), 72);
+        return x;
     }
 
     static void due(String what, long got, long want) {

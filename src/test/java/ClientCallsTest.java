@@ -1,9 +1,5 @@
 /** Promises 10 to 17: connect, write, setWay, check, use, changeKey, close, tick. */
 final class ClientCallsTest {
-    private static final Class<IndexOutOfBoundsException> INDEX = IndexOutOfBoundsException.class;
-    private static final Class<IllegalArgumentException> ARGUMENT = IllegalArgumentException.class;
-    private static final Class<IllegalStateException> STATE = IllegalStateException.class;
-
     private ClientCallsTest() {
     }
 
@@ -23,18 +19,6 @@ final class ClientCallsTest {
         closesOnThePathThatIsUsed();
         ticks();
         Checks.end("ClientCallsTest");
-    }
-
-    /** Established at 9, with a measure of 9, and nothing lost. */
-    private static Tidewater established() {
-        Tidewater x = new Tidewater();
-        x.setPath(0, 4, 9, 30, 30);
-        x.setPath(1, 4, 9, 30, 30);
-        x.connect(-1);
-        x.tick(9);
-        Checks.due("established", x.state(0), 2);
-        Checks.due("measured", x.path(0, 3), 72);
-        return x;
     }
 
     private static void connectSaysHello() {
@@ -84,17 +68,17 @@ final class ClientCallsTest {
 
     private static void connectRefuses() {
         Tidewater x = new Tidewater();
-        Checks.refused("connect", x, ARGUMENT, () -> x.connect(-2));
-        Checks.refused("connect", x, ARGUMENT, () -> x.connect(10));
-        Checks.refused("connect", x, ARGUMENT, () -> x.connect(Integer.MIN_VALUE));
+        Checks.refused("connect", x, Checks.ARGUMENT, () -> x.connect(-2));
+        Checks.refused("connect", x, Checks.ARGUMENT, () -> x.connect(10));
+        Checks.refused("connect", x, Checks.ARGUMENT, () -> x.connect(Integer.MIN_VALUE));
         x.connect(-1);
-        Checks.refused("connect", x, STATE, () -> x.connect(-1));
-        Checks.refused("connect", x, STATE, () -> x.connect(5));
-        Checks.refused("connect", x, ARGUMENT, () -> x.connect(10));
+        Checks.refused("connect", x, Checks.STATE, () -> x.connect(-1));
+        Checks.refused("connect", x, Checks.STATE, () -> x.connect(5));
+        Checks.refused("connect", x, Checks.ARGUMENT, () -> x.connect(10));
         x.write(0, 10);
         x.tick(11);
         Checks.due("no early data by a call that threw", x.packet(0, 9), 0);
-        Checks.refused("connect", x, STATE, () -> x.connect(-1));
+        Checks.refused("connect", x, Checks.STATE, () -> x.connect(-1));
     }
 
     private static void writes() {
@@ -103,16 +87,16 @@ final class ClientCallsTest {
         Checks.due("write", x.write(0, 199), 200);
         Checks.due("write", x.write(3, 200), 200);
         Checks.due("write", x.write(1, 150), 150);
-        Checks.refused("write", x, INDEX, () -> x.write(4, 0));
-        Checks.refused("write", x, INDEX, () -> x.write(-1, 201));
-        Checks.refused("write", x, ARGUMENT, () -> x.write(0, 0));
-        Checks.refused("write", x, ARGUMENT, () -> x.write(0, 201));
-        Checks.refused("write", x, ARGUMENT, () -> x.write(2, -1));
-        Checks.refused("write", x, ARGUMENT, () -> x.write(2, Integer.MAX_VALUE));
-        Checks.refused("write", x, STATE, () -> x.write(0, 1));
-        Checks.refused("write", x, STATE, () -> x.write(1, 51));
+        Checks.refused("write", x, Checks.INDEX, () -> x.write(4, 0));
+        Checks.refused("write", x, Checks.INDEX, () -> x.write(-1, 201));
+        Checks.refused("write", x, Checks.ARGUMENT, () -> x.write(0, 0));
+        Checks.refused("write", x, Checks.ARGUMENT, () -> x.write(0, 201));
+        Checks.refused("write", x, Checks.ARGUMENT, () -> x.write(2, -1));
+        Checks.refused("write", x, Checks.ARGUMENT, () -> x.write(2, Integer.MAX_VALUE));
+        Checks.refused("write", x, Checks.STATE, () -> x.write(0, 1));
+        Checks.refused("write", x, Checks.STATE, () -> x.write(1, 51));
         Checks.due("write", x.write(1, 50), 200);
-        Tidewater y = established();
+        Tidewater y = Checks.established();
         y.close();
         Checks.due("while closing", y.write(0, 5), 5);
         y.tick(30);
@@ -121,16 +105,16 @@ final class ClientCallsTest {
     }
 
     private static void setsWays() {
-        Tidewater x = established();
+        Tidewater x = Checks.established();
         Checks.due("setWay", x.setWay(0, 2), 0);
         Checks.due("setWay", x.setWay(0, 1), 2);
         Checks.due("setWay", x.setWay(0, 0), 1);
         Checks.due("setWay", x.setWay(1, 1), 0);
         Checks.due("the window stays", x.path(0, 0), 160);
-        Checks.refused("setWay", x, INDEX, () -> x.setWay(2, 3));
-        Checks.refused("setWay", x, INDEX, () -> x.setWay(-1, 0));
-        Checks.refused("setWay", x, ARGUMENT, () -> x.setWay(0, 3));
-        Checks.refused("setWay", x, ARGUMENT, () -> x.setWay(1, -1));
+        Checks.refused("setWay", x, Checks.INDEX, () -> x.setWay(2, 3));
+        Checks.refused("setWay", x, Checks.INDEX, () -> x.setWay(-1, 0));
+        Checks.refused("setWay", x, Checks.ARGUMENT, () -> x.setWay(0, 3));
+        Checks.refused("setWay", x, Checks.ARGUMENT, () -> x.setWay(1, -1));
         Checks.due("setWay", x.setWay(1, 0), 1);
         x.setWay(0, 2);
         x.write(0, 10);
@@ -140,7 +124,7 @@ final class ClientCallsTest {
     }
 
     private static void checksPaths() {
-        Tidewater x = established();
+        Tidewater x = Checks.established();
         Checks.due("path 1", x.path(1, 7), 0);
         x.check(1);
         Checks.due("CHALLENGE in the queue", x.path(1, 8), 1);
@@ -153,12 +137,12 @@ final class ClientCallsTest {
         x.tick(9);
         Checks.due("path 0 stays checked", x.path(0, 7), 1);
         Tidewater y = new Tidewater();
-        Checks.refused("check", y, INDEX, () -> y.check(2));
-        Checks.refused("check", y, INDEX, () -> y.check(-1));
-        Checks.refused("check", y, STATE, () -> y.check(0));
+        Checks.refused("check", y, Checks.INDEX, () -> y.check(2));
+        Checks.refused("check", y, Checks.INDEX, () -> y.check(-1));
+        Checks.refused("check", y, Checks.STATE, () -> y.check(0));
         y.connect(-1);
-        Checks.refused("check", y, STATE, () -> y.check(1));
-        Tidewater z = established();
+        Checks.refused("check", y, Checks.STATE, () -> y.check(1));
+        Tidewater z = Checks.established();
         z.lose(1, false, 1);
         z.check(1);
         z.tick(20);
@@ -168,16 +152,16 @@ final class ClientCallsTest {
         z.close();
         z.tick(8);
         Checks.due("RESPONSE came while closing", z.path(1, 7), 1);
-        Checks.refused("check", z, STATE, () -> z.check(1));
-        Checks.refused("check", z, INDEX, () -> z.check(2));
+        Checks.refused("check", z, Checks.STATE, () -> z.check(1));
+        Checks.refused("check", z, Checks.INDEX, () -> z.check(2));
     }
 
     private static void usesPaths() {
-        Tidewater x = established();
-        Checks.refused("use", x, ARGUMENT, () -> x.use(3));
-        Checks.refused("use", x, ARGUMENT, () -> x.use(-1));
-        Checks.refused("use", x, STATE, () -> x.use(1));
-        Checks.refused("use", x, STATE, () -> x.use(2));
+        Tidewater x = Checks.established();
+        Checks.refused("use", x, Checks.ARGUMENT, () -> x.use(3));
+        Checks.refused("use", x, Checks.ARGUMENT, () -> x.use(-1));
+        Checks.refused("use", x, Checks.STATE, () -> x.use(1));
+        Checks.refused("use", x, Checks.STATE, () -> x.use(2));
         Checks.due("use(0)", x.use(0), 0);
         x.check(1);
         x.tick(9);
@@ -200,7 +184,7 @@ final class ClientCallsTest {
     }
 
     private static void usesBoth() {
-        Tidewater x = established();
+        Tidewater x = Checks.established();
         x.check(1);
         x.tick(9);
         x.use(2);
@@ -215,18 +199,18 @@ final class ClientCallsTest {
     }
 
     private static void changesKeys() {
-        Tidewater x = established();
-        Checks.refused("changeKey", x, STATE, () -> x.changeKey());
+        Tidewater x = Checks.established();
+        Checks.refused("changeKey", x, Checks.STATE, () -> x.changeKey());
         x.write(0, 10);
         x.tick(11);
         Checks.due("not acknowledged yet", x.packet(0, 5), 0);
-        Checks.refused("changeKey", x, STATE, () -> x.changeKey());
+        Checks.refused("changeKey", x, Checks.STATE, () -> x.changeKey());
         x.tick(1);
         Checks.due("acknowledged", x.packet(0, 5), 1);
         Checks.due("changeKey", x.changeKey(), 1);
         Checks.due("the key of the client", x.state(2), 1);
         Checks.due("the key of the server", x.state(3), 0);
-        Checks.refused("changeKey", x, STATE, () -> x.changeKey());
+        Checks.refused("changeKey", x, Checks.STATE, () -> x.changeKey());
         x.write(1, 10);
         x.tick(1);
         Checks.due("the key of the packet", x.packet(1, 7), 1);
@@ -238,15 +222,15 @@ final class ClientCallsTest {
         x.tick(7);
         Checks.due("changeKey", x.changeKey(), 2);
         x.close();
-        Checks.refused("changeKey", x, STATE, () -> x.changeKey());
+        Checks.refused("changeKey", x, Checks.STATE, () -> x.changeKey());
         Tidewater y = new Tidewater();
-        Checks.refused("changeKey", y, STATE, () -> y.changeKey());
+        Checks.refused("changeKey", y, Checks.STATE, () -> y.changeKey());
     }
 
     /** A packet with the key 1 comes at some tick; one with the key 0 comes so many ticks after it. */
     private static void keepsTheKeyBefore() {
         for (int after = 6; after <= 8; after++) {
-            Tidewater x = established();
+            Tidewater x = Checks.established();
             x.write(0, 10);
             x.tick(12);
             x.write(1, 10);
@@ -271,15 +255,15 @@ final class ClientCallsTest {
 
     private static void closes() {
         Tidewater x = new Tidewater();
-        Checks.refused("close", x, STATE, () -> x.close());
+        Checks.refused("close", x, Checks.STATE, () -> x.close());
         x.connect(-1);
-        Checks.refused("close", x, STATE, () -> x.close());
-        Tidewater y = established();
+        Checks.refused("close", x, Checks.STATE, () -> x.close());
+        Tidewater y = Checks.established();
         y.write(0, 40);
         y.tick(1);
         y.close();
         Checks.due("closing", y.state(0), 3);
-        Checks.refused("close", y, STATE, () -> y.close());
+        Checks.refused("close", y, Checks.STATE, () -> y.close());
         y.write(0, 40);
         y.tick(4);
         Checks.due("ahead of CLOSE", y.state(1), 1);
@@ -297,8 +281,8 @@ final class ClientCallsTest {
         Checks.due("30 ticks later", y.state(0), 4);
         y.tick(50);
         Checks.due("none sent", y.packets(), 3);
-        Checks.refused("close", y, STATE, () -> y.close());
-        Tidewater z = established();
+        Checks.refused("close", y, Checks.STATE, () -> y.close());
+        Tidewater z = Checks.established();
         z.lose(0, true, 1);
         z.close();
         z.tick(20);
@@ -308,7 +292,7 @@ final class ClientCallsTest {
     }
 
     private static void closesOnThePathThatIsUsed() {
-        Tidewater x = established();
+        Tidewater x = Checks.established();
         x.check(1);
         x.tick(9);
         x.use(1);
@@ -319,19 +303,19 @@ final class ClientCallsTest {
 
     private static void ticks() {
         Tidewater x = new Tidewater();
-        Checks.refused("tick", x, ARGUMENT, () -> x.tick(0));
-        Checks.refused("tick", x, ARGUMENT, () -> x.tick(51));
-        Checks.refused("tick", x, ARGUMENT, () -> x.tick(-1));
-        Checks.refused("tick", x, ARGUMENT, () -> x.tick(Integer.MAX_VALUE));
+        Checks.refused("tick", x, Checks.ARGUMENT, () -> x.tick(0));
+        Checks.refused("tick", x, Checks.ARGUMENT, () -> x.tick(51));
+        Checks.refused("tick", x, Checks.ARGUMENT, () -> x.tick(-1));
+        Checks.refused("tick", x, Checks.ARGUMENT, () -> x.tick(Integer.MAX_VALUE));
         Checks.due("tick(1)", x.tick(1), 1);
         Checks.due("tick(50)", x.tick(50), 51);
         while (x.now() < 1951) {
             x.tick(50);
         }
-        Checks.refused("tick", x, STATE, () -> x.tick(50));
-        Checks.refused("tick", x, ARGUMENT, () -> x.tick(51));
+        Checks.refused("tick", x, Checks.STATE, () -> x.tick(50));
+        Checks.refused("tick", x, Checks.ARGUMENT, () -> x.tick(51));
         Checks.due("tick(49)", x.tick(49), 2000);
-        Checks.refused("tick", x, STATE, () -> x.tick(1));
+        Checks.refused("tick", x, Checks.STATE, () -> x.tick(1));
         Checks.due("now()", x.now(), 2000);
     }
 }

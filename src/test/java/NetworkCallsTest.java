@@ -1,8 +1,5 @@
 /** Promises 2 to 6: setPath, setUp, lose, late, foreign. */
 final class NetworkCallsTest {
-    private static final Class<IndexOutOfBoundsException> INDEX = IndexOutOfBoundsException.class;
-    private static final Class<IllegalArgumentException> ARGUMENT = IllegalArgumentException.class;
-
     private NetworkCallsTest() {
     }
 
@@ -102,14 +99,14 @@ final class NetworkCallsTest {
         x.foreign(0, 4);
         int[] wrongPaths = {-1, 2, Integer.MAX_VALUE, Integer.MIN_VALUE};
         for (int path : wrongPaths) {
-            Checks.refused("setPath", x, INDEX, () -> x.setPath(path, 5, 2, 8, 6));
-            Checks.refused("setPath, all wrong", x, INDEX, () -> x.setPath(path, 0, 0, 0, -1));
+            Checks.refused("setPath", x, Checks.INDEX, () -> x.setPath(path, 5, 2, 8, 6));
+            Checks.refused("setPath, all wrong", x, Checks.INDEX, () -> x.setPath(path, 0, 0, 0, -1));
         }
         int[][] wrong = {{0, 2, 8, 6}, {31, 2, 8, 6}, {5, 0, 8, 6}, {5, 10, 8, 6}, {5, 2, 0, 6}, {5, 2, 31, 6},
             {5, 2, 8, -1}, {5, 2, 8, 31}, {Integer.MIN_VALUE, 2, 8, 6}, {5, 2, 8, Integer.MAX_VALUE}};
         for (int[] w : wrong) {
-            Checks.refused("setPath", x, ARGUMENT, () -> x.setPath(0, w[0], w[1], w[2], w[3]));
-            Checks.refused("setPath", x, ARGUMENT, () -> x.setPath(1, w[0], w[1], w[2], w[3]));
+            Checks.refused("setPath", x, Checks.ARGUMENT, () -> x.setPath(0, w[0], w[1], w[2], w[3]));
+            Checks.refused("setPath", x, Checks.ARGUMENT, () -> x.setPath(1, w[0], w[1], w[2], w[3]));
         }
         Checks.due("the room is as it was", x.foreign(0, 30), 4);
     }
@@ -138,8 +135,8 @@ final class NetworkCallsTest {
         z.connect(-1);
         z.setUp(0, false);
         Checks.due("what is in the queue goes on", tickOfServer(z), 6);
-        Checks.refused("setUp", z, INDEX, () -> z.setUp(2, true));
-        Checks.refused("setUp", z, INDEX, () -> z.setUp(-1, false));
+        Checks.refused("setUp", z, Checks.INDEX, () -> z.setUp(2, true));
+        Checks.refused("setUp", z, Checks.INDEX, () -> z.setUp(-1, false));
         Checks.due("still down", z.setUp(0, true), false);
     }
 
@@ -173,11 +170,11 @@ final class NetworkCallsTest {
         Checks.due("gone as told, not by the queue", tickOfServer(x), 15);
         Tidewater y = new Tidewater();
         y.lose(0, true, 1);
-        Checks.refused("lose", y, INDEX, () -> y.lose(2, true, 21));
-        Checks.refused("lose", y, INDEX, () -> y.lose(-1, false, 0));
-        Checks.refused("lose", y, ARGUMENT, () -> y.lose(0, true, -1));
-        Checks.refused("lose", y, ARGUMENT, () -> y.lose(0, true, 21));
-        Checks.refused("lose", y, ARGUMENT, () -> y.lose(1, false, Integer.MAX_VALUE));
+        Checks.refused("lose", y, Checks.INDEX, () -> y.lose(2, true, 21));
+        Checks.refused("lose", y, Checks.INDEX, () -> y.lose(-1, false, 0));
+        Checks.refused("lose", y, Checks.ARGUMENT, () -> y.lose(0, true, -1));
+        Checks.refused("lose", y, Checks.ARGUMENT, () -> y.lose(0, true, 21));
+        Checks.refused("lose", y, Checks.ARGUMENT, () -> y.lose(1, false, Integer.MAX_VALUE));
         y.connect(-1);
         Checks.due("what was told stays", tickOfServer(y), 15);
     }
@@ -237,12 +234,12 @@ final class NetworkCallsTest {
         Checks.due("late by 0", tickOfServer(x), 6);
         Tidewater y = new Tidewater();
         y.late(0, 1, 4);
-        Checks.refused("late", y, INDEX, () -> y.late(2, 21, 51));
-        Checks.refused("late", y, INDEX, () -> y.late(-1, 0, 0));
-        Checks.refused("late", y, ARGUMENT, () -> y.late(0, -1, 0));
-        Checks.refused("late", y, ARGUMENT, () -> y.late(0, 21, 0));
-        Checks.refused("late", y, ARGUMENT, () -> y.late(0, 0, -1));
-        Checks.refused("late", y, ARGUMENT, () -> y.late(0, 0, 51));
+        Checks.refused("late", y, Checks.INDEX, () -> y.late(2, 21, 51));
+        Checks.refused("late", y, Checks.INDEX, () -> y.late(-1, 0, 0));
+        Checks.refused("late", y, Checks.ARGUMENT, () -> y.late(0, -1, 0));
+        Checks.refused("late", y, Checks.ARGUMENT, () -> y.late(0, 21, 0));
+        Checks.refused("late", y, Checks.ARGUMENT, () -> y.late(0, 0, -1));
+        Checks.refused("late", y, Checks.ARGUMENT, () -> y.late(0, 0, 51));
         y.connect(-1);
         Checks.due("what was told stays", tickOfServer(y), 10);
     }
@@ -269,10 +266,10 @@ final class NetworkCallsTest {
         Checks.due("and not marked", y.packet(0, 10), 0);
         Tidewater z = new Tidewater();
         z.foreign(0, 1);
-        Checks.refused("foreign", z, INDEX, () -> z.foreign(2, 0));
-        Checks.refused("foreign", z, INDEX, () -> z.foreign(-1, 1));
-        Checks.refused("foreign", z, ARGUMENT, () -> z.foreign(0, 0));
-        Checks.refused("foreign", z, ARGUMENT, () -> z.foreign(0, 31));
-        Checks.refused("foreign", z, ARGUMENT, () -> z.foreign(1, -5));
+        Checks.refused("foreign", z, Checks.INDEX, () -> z.foreign(2, 0));
+        Checks.refused("foreign", z, Checks.INDEX, () -> z.foreign(-1, 1));
+        Checks.refused("foreign", z, Checks.ARGUMENT, () -> z.foreign(0, 0));
+        Checks.refused("foreign", z, Checks.ARGUMENT, () -> z.foreign(0, 31));
+        Checks.refused("foreign", z, Checks.ARGUMENT, () -> z.foreign(1, -5));
     }
 }

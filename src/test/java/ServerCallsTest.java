@@ -1,9 +1,5 @@
 /** Promises 7 to 9: setCookies, read, loseState. */
 final class ServerCallsTest {
-    private static final Class<IndexOutOfBoundsException> INDEX = IndexOutOfBoundsException.class;
-    private static final Class<IllegalArgumentException> ARGUMENT = IllegalArgumentException.class;
-    private static final Class<IllegalStateException> STATE = IllegalStateException.class;
-
     private ServerCallsTest() {
     }
 
@@ -16,6 +12,8 @@ final class ServerCallsTest {
         losesStateAndResets();
         losesStateWhenever();
         losesStateAndIsFoundAgain();
+        losesWhatItKnewOfMarks();
+        losesWhatItHadToAcknowledge();
         Checks.end("ServerCallsTest");
     }
 
@@ -75,17 +73,8 @@ final class ServerCallsTest {
         Checks.due("said with the cookie", x.state(1), 1);
     }
 
-    /** Established at 9, with a measure of 9, and nothing lost. */
-    private static Tidewater established() {
-        Tidewater x = new Tidewater();
-        x.setPath(0, 4, 9, 30, 30);
-        x.connect(-1);
-        x.tick(9);
-        return x;
-    }
-
     private static void readsInOrder() {
-        Tidewater x = established();
+        Tidewater x = Checks.established();
         Checks.due("nothing to read", x.read(0, 200), 0);
         x.write(0, 30);
         x.lose(0, true, 1);
@@ -104,7 +93,7 @@ final class ServerCallsTest {
     }
 
     private static void readingGivesCredit() {
-        Tidewater x = established();
+        Tidewater x = Checks.established();
         x.write(1, 60);
         x.tick(20);
         Checks.due("sent below the credit", x.stream(1, 1), 40);
@@ -130,19 +119,19 @@ final class ServerCallsTest {
     }
 
     private static void readRefuses() {
-        Tidewater x = established();
+        Tidewater x = Checks.established();
         x.write(0, 20);
         x.tick(10);
-        Checks.refused("read", x, INDEX, () -> x.read(4, 0));
-        Checks.refused("read", x, INDEX, () -> x.read(-1, 1));
-        Checks.refused("read", x, ARGUMENT, () -> x.read(0, 0));
-        Checks.refused("read", x, ARGUMENT, () -> x.read(0, 201));
-        Checks.refused("read", x, ARGUMENT, () -> x.read(3, Integer.MIN_VALUE));
+        Checks.refused("read", x, Checks.INDEX, () -> x.read(4, 0));
+        Checks.refused("read", x, Checks.INDEX, () -> x.read(-1, 1));
+        Checks.refused("read", x, Checks.ARGUMENT, () -> x.read(0, 0));
+        Checks.refused("read", x, Checks.ARGUMENT, () -> x.read(0, 201));
+        Checks.refused("read", x, Checks.ARGUMENT, () -> x.read(3, Integer.MIN_VALUE));
         Checks.due("all is there still", x.read(0, 200), 20);
     }
 
     private static void losesStateAndResets() {
-        Tidewater x = established();
+        Tidewater x = Checks.established();
         x.write(0, 20);
         x.tick(10);
         x.read(0, 5);
@@ -165,10 +154,10 @@ final class ServerCallsTest {
         x.tick(50);
         Checks.due("it sends nothing any more", x.packets(), 3);
         Checks.due("nor probes", x.count(2), 0);
-        Checks.refused("connect", x, STATE, () -> x.connect(-1));
-        Checks.refused("check", x, STATE, () -> x.check(0));
-        Checks.refused("close", x, STATE, () -> x.close());
-        Checks.refused("changeKey", x, STATE, () -> x.changeKey());
+        Checks.refused("connect", x, Checks.STATE, () -> x.connect(-1));
+        Checks.refused("check", x, Checks.STATE, () -> x.check(0));
+        Checks.refused("close", x, Checks.STATE, () -> x.close());
+        Checks.refused("changeKey", x, Checks.STATE, () -> x.changeKey());
     }
 
     private static void losesStateWhenever() {
@@ -182,18 +171,18 @@ final class ServerCallsTest {
         Checks.due("early data came", x.packet(0, 6), 2);
         x.tick(5);
         Checks.due("reset while saying hello", x.state(0), 5);
-        x = established();
+        x = Checks.established();
         x.loseState();
         x.check(0);
         x.tick(9);
         Checks.due("CHALLENGE is answered with RESET", x.state(0), 5);
-        x = established();
+        x = Checks.established();
         x.loseState();
         x.close();
         x.tick(9);
         Checks.due("CLOSE is answered with RESET", x.state(0), 5);
         Checks.due("it does not drain", x.state(1), 3);
-        x = established();
+        x = Checks.established();
         x.close();
         x.tick(5);
         x.loseState();
@@ -228,5 +217,56 @@ final class ServerCallsTest {
         x.tick(8);
         Checks.due("acknowledged", x.packet(3, 5), 1);
         Checks.due("refused for good", x.packet(0, 5), 4);
+    }
+
+    /** The first HELLO is late and comes at 55; the second one establishes. */
+    private static Tidewater establishedAheadOfAnHello() {
+        Tidewater x = new Tidewater();
+        x.setPath(0, 4, 9, 30, 30);
+        x.late(0, 1, 50);
+        x.connect(-1);
+        x.tick(18);
+        Checks.due("established", x.state(0), 2);
+        return x;
+    }
+
+    private static void losesWhatItKnewOfMarks() {
+        Tidewater x = establishedAheadOfAnHello();
+        x.setPath(0, 4, 9, 30, 0);
+        x.write(0, 20);
+        x.tick(9);
+        Checks.due("a harm by 2 marks", x.count(5), 1);
+        x.tick(24);
+        x.loseState();
+        x.write(0, 10);
+        x.tick(4);
+        Checks.due("established again", x.state(1), 1);
+        x.tick(1);
+        Checks.due("taken", x.packet(2, 6) + 2 * x.packet(2, 10), 3);
+        Checks.due("as the first one, it is not just behind: at once", x.count(4), 3);
+        x.tick(4);
+        Checks.due("acknowledged", x.packet(2, 5), 1);
+        Checks.due("1 mark is not more than 2", x.count(5), 1);
+        Checks.due("not reset", x.state(0), 2);
+    }
+
+    /** 1 and 2 are taken at 54; 0 is late and comes after the HELLO of 55: it is the first one then. */
+    private static void losesWhatItHadToAcknowledge() {
+        Tidewater x = establishedAheadOfAnHello();
+        x.tick(31);
+        x.write(0, 30);
+        x.late(0, 1, 2);
+        x.tick(5);
+        Checks.due("1 was not just behind", x.count(4), 1);
+        Checks.due("2 waits", x.packet(2, 6), 1);
+        x.loseState();
+        x.tick(1);
+        Checks.due("established again", x.state(1), 1);
+        x.tick(1);
+        Checks.due("0 is taken", x.packet(0, 6), 1);
+        x.tick(2);
+        Checks.due("0 is the first one, and waits", x.count(4), 1);
+        x.tick(1);
+        Checks.due("3 ticks later", x.count(4), 2);
     }
 }

@@ -16,20 +16,12 @@ final class TermsTest {
         sendsBelowTheCredits();
         sendsGoingRound();
         sendsWhatIsLostFirst();
+        measuresNothing();
         Checks.end("TermsTest");
     }
 
-    /** Established at 9, with a measure of 9, and nothing lost. */
-    private static Tidewater established() {
-        Tidewater x = new Tidewater();
-        x.setPath(0, 4, 9, 30, 30);
-        x.connect(-1);
-        x.tick(9);
-        return x;
-    }
-
     private static void acknowledgesInTime() {
-        Tidewater x = established();
+        Tidewater x = Checks.established();
         x.tick(15);
         Checks.due("no data came, none at 20", x.count(4), 0);
         x.write(0, 10);
@@ -53,7 +45,7 @@ final class TermsTest {
     }
 
     private static void acknowledgesFourRanges() {
-        Tidewater x = established();
+        Tidewater x = Checks.established();
         x.lose(0, false, 20);
         for (int i = 0; i <= 8; i++) {
             x.write(i % 4, 10);
@@ -74,7 +66,7 @@ final class TermsTest {
     }
 
     private static void harmsByMarks() {
-        Tidewater x = established();
+        Tidewater x = Checks.established();
         x.setPath(0, 4, 9, 30, 0);
         x.write(0, 10);
         x.tick(11);
@@ -90,7 +82,7 @@ final class TermsTest {
     }
 
     private static void harmsOnceForWhatWasSentAhead() {
-        Tidewater x = established();
+        Tidewater x = Checks.established();
         x.setPath(0, 4, 9, 30, 0);
         x.write(0, 40);
         x.tick(9);
@@ -111,7 +103,7 @@ final class TermsTest {
 
     /** 0 is lost; 1 to 3 are acknowledged at 18 and 19; 4 has the bytes of 0, and is acknowledged at 30. */
     private static Tidewater harmed(int way) {
-        Tidewater x = established();
+        Tidewater x = Checks.established();
         x.setWay(0, way);
         x.write(0, 40);
         x.lose(0, true, 1);
@@ -150,7 +142,7 @@ final class TermsTest {
     }
 
     private static void growsByRates() {
-        Tidewater x = established();
+        Tidewater x = Checks.established();
         x.setWay(0, 2);
         x.write(0, 40);
         x.tick(9);
@@ -187,7 +179,7 @@ final class TermsTest {
     }
 
     private static void sendsByTheSmoothTime() {
-        Tidewater x = established();
+        Tidewater x = Checks.established();
         for (int stream = 0; stream < 4; stream++) {
             x.write(stream, 25);
         }
@@ -202,7 +194,7 @@ final class TermsTest {
     }
 
     private static void sendsBelowTheCredits() {
-        Tidewater x = established();
+        Tidewater x = Checks.established();
         for (int stream = 0; stream < 4; stream++) {
             x.write(stream, 200);
         }
@@ -220,7 +212,7 @@ final class TermsTest {
     }
 
     private static void sendsGoingRound() {
-        Tidewater x = established();
+        Tidewater x = Checks.established();
         x.write(1, 12);
         x.write(3, 25);
         x.tick(2);
@@ -237,7 +229,7 @@ final class TermsTest {
 
     /** The packets 0 and 1 have 3 and 4 bytes of stream 2, one behind the other; both are lost. */
     private static void sendsWhatIsLostFirst() {
-        Tidewater x = established();
+        Tidewater x = Checks.established();
         x.lose(0, true, 2);
         x.write(2, 3);
         x.tick(1);
@@ -258,5 +250,38 @@ final class TermsTest {
         Checks.due("no probe", x.packet(lost, 8), 0);
         Checks.due("two losses", x.count(0), 2);
         Checks.due("one harm", x.count(5), 1);
+    }
+
+    /** COOKIE comes at 13, and behind it in the same tick ACCEPT, which answers an hello without one: a measure of 0. */
+    private static void measuresNothing() {
+        Tidewater x = new Tidewater();
+        x.setPath(0, 6, 9, 30, 30);
+        x.setCookies(true);
+        x.connect(-1);
+        x.tick(9);
+        x.setCookies(false);
+        x.setPath(0, 1, 9, 30, 30);
+        x.tick(1);
+        x.setPath(0, 2, 9, 30, 30);
+        x.tick(2);
+        Checks.due("ahead of both", x.state(0), 1);
+        x.write(0, 40);
+        x.write(1, 40);
+        x.lose(0, true, 9);
+        x.tick(1);
+        Checks.due("established", x.state(0), 2);
+        Checks.due("hellos", x.count(3), 3);
+        Checks.due("the time", x.path(0, 3), 0);
+        Checks.due("the spread", x.path(0, 4), 0);
+        Checks.due("the least measure", x.path(0, 5), 0);
+        Checks.due("no time to send by: all at once", x.packets(), 8);
+        x.tick(3);
+        Checks.due("ahead of the probe", x.count(2), 0);
+        x.tick(1);
+        Checks.due("0, 1 and 3, together", x.count(2), 1);
+        x.setWay(0, 2);
+        x.tick(4);
+        Checks.due("the probe is acknowledged", x.packet(8, 5), 1);
+        Checks.due("by rates, at least 64", x.path(0, 0), 64);
     }
 }
