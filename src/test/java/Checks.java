@@ -27,6 +27,22 @@ final class Checks {
         return x;
     }
 
+    /** Established at 9 like that, the path 1 checked at 18; what is used is the path 0 still. */
+    static Tidewater checked() {
+        Tidewater x = established();
+        x.check(1);
+        x.tick(9);
+        due("checked", x.path(1, 7), 1);
+        return x;
+    }
+
+    /** Lets ticks pass until now is that tick. */
+    static void until(Tidewater x, int tick) {
+        while (x.now() < tick) {
+            x.tick(Math.min(50, tick - x.now()));
+        }
+    }
+
     static void due(String what, long got, long want) {
         checked++;
         if (got != want) {
