@@ -19,6 +19,7 @@ final class AckEdgesTest {
         notTakenIsNotTheSecond();
         fourRanges();
         noRanges();
+        noRangesAndOneInFlight();
         eachTickThatTwentyDivides();
         onceIfBothAreDue();
         againIfItDidAtOnce();
@@ -32,6 +33,7 @@ final class AckEdgesTest {
         heardWhileClosing();
         notHeardWhenClosed();
         notHeardWhenReset();
+        knownMarksAndAnOlderAck();
         fourHundredPackets();
         Checks.end("AckEdgesTest");
     }
@@ -188,25 +190,27 @@ final class AckEdgesTest {
         acksAt(x, 18, 2);
     }
 
-    /** "the second one that is taken": 2 comes at 43, is not taken by its key, and is no second one behind 5 */
+    /** "the second one that is taken": 2 comes at 43, and is not taken by its key; 5 comes at 42, or at 44 */
     private static void notTakenIsNotTheSecond() {
-        Tidewater x = Checks.established();
-        x.write(0, 20);
-        Checks.until(x, 18);
-        x.late(0, 1, 20);
-        x.write(1, 10);
-        x.tick(1);
-        Checks.due("changeKey", x.changeKey(), 1);
-        x.write(2, 10);
-        Checks.until(x, 37);
-        x.write(3, 10);
-        Checks.until(x, 42);
-        Checks.due("5 is taken", x.packet(5, 6) + 10 * x.packet(5, 1), 381);
-        int acks = x.count(4);
-        acksAt(x, 43, acks);
-        Checks.due("2 is not taken", x.packet(2, 6), 2);
-        acksAt(x, 44, acks);
-        acksAt(x, 45, acks + 1);
+        for (int tick = 42; tick <= 44; tick += 2) {
+            Tidewater x = Checks.established();
+            x.write(0, 20);
+            Checks.until(x, 18);
+            x.late(0, 1, 20);
+            x.write(1, 10);
+            x.tick(1);
+            Checks.due("changeKey", x.changeKey(), 1);
+            x.write(2, 10);
+            Checks.until(x, tick - 5);
+            x.write(3, 10);
+            Checks.until(x, 41);
+            int acks = x.count(4);
+            acksAt(x, tick, acks);
+            Checks.due("5 is taken", x.packet(5, 6), 1);
+            acksAt(x, tick + 2, acks);
+            Checks.due("2 is not taken", x.packet(2, 6), 2);
+            acksAt(x, tick + 3, acks + 1);
+        }
     }
 
     /** "the ranges of numbers that were taken, the 4 with the greatest numbers": 0, 2, 4, 6, and 8 in the other run */
@@ -480,5 +484,61 @@ final class AckEdgesTest {
         Checks.due("no other probe", x.count(2), probes);
         Checks.due("no other byte", x.stream(0, 1), sent);
         Checks.refused("packet", x, Checks.INDEX, () -> x.packet(400, 0));
+    }
+
+    /** "more marked ones than it knew": it knows 2 since 21; the ACK of 47 tells 1, that of 53 tells 2 again */
+    private static void knownMarksAndAnOlderAck() {
+        Tidewater x = Checks.established();
+        x.setPath(0, 4, 9, 30, 0);
+        x.write(0, 10);
+        Checks.until(x, 16);
+        x.setPath(0, 30, 9, 30, 0);
+        x.tick(1);
+        Checks.due("an ACK that comes at 47", x.count(4), 1);
+        x.setPath(0, 1, 9, 30, 0);
+        x.write(0, 10);
+        Checks.until(x, 21);
+        Checks.due("both are acknowledged", x.packet(0, 5) + x.packet(1, 5), 2);
+        Checks.due("a harm", x.count(5), 1);
+        x.setPath(0, 1, 9, 30, 30);
+        Checks.until(x, 47);
+        x.write(0, 10);
+        Checks.until(x, 53);
+        Checks.due("acknowledged", x.packet(2, 5), 1);
+        Checks.due("no other harm", x.count(5), 1);
+    }
+
+    /**
+     * "if the greatest number in it was in flight": there is none in the ACK of 24, and 0 is in flight. 0 is early and
+     * late: it comes at 17, to a server that lost its state at 13 and takes no early data since 14; the client was told
+     * at 14 that it is taken. What the ACK does is that probes begin anew: 15 ticks behind that of 16.
+     */
+    private static void noRangesAndOneInFlight() {
+        Tidewater x = new Tidewater();
+        x.setPath(0, 4, 1, 30, 30);
+        x.write(0, 10);
+        x.connect(3);
+        x.tick(1);
+        x.late(0, 1, 11);
+        x.tick(1);
+        x.setPath(0, 9, 9, 30, 30);
+        Checks.until(x, 9);
+        x.setPath(0, 4, 9, 30, 30);
+        Checks.until(x, 13);
+        x.loseState();
+        Checks.until(x, 14);
+        Checks.due("established, both", x.state(0) + x.state(1), 3);
+        x.lose(0, true, 1);
+        Checks.until(x, 17);
+        Checks.due("not taken", x.packet(0, 6), 2);
+        Checks.due("its probe is gone", x.packet(1, 6) + 10 * x.packet(1, 8), 13);
+        acksAt(x, 19, 0);
+        acksAt(x, 20, 1);
+        Checks.until(x, 30);
+        Checks.due("in flight", x.packet(0, 5), 0);
+        Checks.due("no measure", x.path(0, 6), 4);
+        Checks.due("probes", x.count(2), 1);
+        x.tick(1);
+        Checks.due("probes", x.count(2), 2);
     }
 }

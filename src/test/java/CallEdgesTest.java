@@ -36,6 +36,7 @@ final class CallEdgesTest {
         whatIsReturned();
         writeAtAnyTime();
         asManyCalls();
+        askingChangesNothing();
         Checks.end("CallEdgesTest");
     }
 
@@ -364,5 +365,34 @@ final class CallEdgesTest {
             Checks.due("credit", x.stream(stream, 4), 40 + x.stream(stream, 6));
         }
         Checks.due("calls", calls + 5 <= 512, true);
+    }
+
+    /** "what there is; nothing from here on changes anything": one of two is asked for everything behind each call */
+    private static void askingChangesNothing() {
+        Tidewater asked = new Tidewater();
+        Tidewater other = new Tidewater();
+        for (int call = 0; call < 120; call++) {
+            callOf(asked, call);
+            callOf(other, call);
+            Checks.same("asked twice", Checks.answers(asked), Checks.answers(asked));
+        }
+        Checks.due("losses that were none", other.count(1) > 0, true);
+        Checks.same("asked at the end alone", Checks.answers(other), Checks.answers(asked));
+    }
+
+    private static void callOf(Tidewater x, int call) {
+        if (call == 0) {
+            x.connect(3);
+        } else if (call % 5 == 1) {
+            x.write(call % 4, 20 - call / 10);
+        } else if (call % 10 == 2) {
+            x.late(0, 1, 12);
+        } else if (call % 10 == 7) {
+            x.lose(0, call % 20 == 7, 1);
+        } else if (call % 5 == 3) {
+            x.read(call % 4, 50);
+        } else {
+            x.tick(6);
+        }
     }
 }

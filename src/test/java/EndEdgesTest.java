@@ -37,6 +37,10 @@ final class EndEdgesTest {
         loseStateKeepsTheKey();
         loseStateAndCookies();
         loseStateAheadOfHello();
+        loseStateKnowsNoNumbers();
+        loseStateKnowsNoMarks();
+        loseStateWaitsForNothing();
+        loseStateBeginsAtZero();
         resetByWhateverArrives();
         resetWhileSayingHello();
         resetAtTheTickOfClosing();
@@ -554,5 +558,94 @@ final class EndEdgesTest {
         Checks.due("taken", x.packet(0, 6), 1);
         Checks.due("RESPONSE", x.path(1, 7), 1);
         Checks.due("not reset", x.state(0), 2);
+    }
+
+    /** Established at 18, and the server again at 55, since it loses its state at 46; 0 and 1 were sent at 41. */
+    private static Tidewater establishedTwice(int bytes, int mark, boolean isHeard) {
+        Tidewater x = new Tidewater();
+        x.setPath(0, 4, 9, 30, mark);
+        x.late(0, 1, 50);
+        x.connect(-1);
+        Checks.until(x, 40);
+        x.write(0, bytes);
+        Checks.until(x, 44);
+        x.lose(0, false, isHeard ? 0 : 1);
+        Checks.until(x, 46);
+        Checks.due("taken", x.packet(0, 6) + x.packet(1, 6), 2);
+        x.loseState();
+        Checks.until(x, 55);
+        Checks.due("established again", x.state(1), 1);
+        return x;
+    }
+
+    /** "has got no packets": it acknowledges 2 alone, and 0 and 1 are lost by time */
+    private static void loseStateKnowsNoNumbers() {
+        Tidewater x = establishedTwice(20, 30, false);
+        x.write(1, 10);
+        Checks.until(x, 63);
+        Checks.due("none is acknowledged", x.packet(0, 5) + x.packet(1, 5) + x.packet(2, 5), 0);
+        x.tick(1);
+        Checks.due("2 is acknowledged", x.packet(2, 5), 1);
+        Checks.due("0 and 1 are lost", x.packet(0, 5) + 10 * x.packet(1, 5), 22);
+        Checks.due("what was got stays", x.stream(0, 5), 20);
+    }
+
+    /** "has got no packets": so that none of them was marked; 2 marks are not more than the 2 that the client knows */
+    private static void loseStateKnowsNoMarks() {
+        Tidewater x = establishedTwice(20, 0, true);
+        Checks.due("a harm by 2 marks", x.count(5), 1);
+        x.write(1, 20);
+        Checks.until(x, 64);
+        Checks.due("2 and 3 are acknowledged", x.packet(2, 5) + x.packet(3, 5), 2);
+        Checks.due("marked", x.packet(2, 10) + x.packet(3, 10), 2);
+        Checks.due("no other harm", x.count(5), 1);
+        Tidewater y = establishedTwice(20, 30, true);
+        y.write(1, 20);
+        Checks.until(y, 64);
+        Checks.due("2 and 3 are acknowledged", y.packet(2, 5) + y.packet(3, 5), 2);
+        Checks.due("no harm", y.count(5), 0);
+    }
+
+    /** "has got no packets": 0 came at 13 and waits until 16; 1, which is not taken, comes behind the second HELLO */
+    private static void loseStateWaitsForNothing() {
+        Tidewater x = new Tidewater();
+        x.setPath(0, 12, 9, 30, 30);
+        x.write(0, 10);
+        x.connect(1);
+        Checks.until(x, 9);
+        x.setPath(0, 4, 9, 30, 30);
+        x.tick(1);
+        x.write(1, 10);
+        Checks.until(x, 13);
+        Checks.due("taken", x.packet(0, 6), 1);
+        x.loseState();
+        Checks.until(x, 15);
+        Checks.due("established again", x.state(1), 1);
+        Checks.due("not taken", x.packet(1, 6), 2);
+        Checks.until(x, 19);
+        Checks.due("nothing is acknowledged", x.count(4), 0);
+        x.tick(1);
+        Checks.due("at 20", x.count(4), 1);
+    }
+
+    /** "has got no packets": 2 waits when the state is lost; 0 is late, and then the first one that is taken */
+    private static void loseStateBeginsAtZero() {
+        Tidewater x = new Tidewater();
+        x.setPath(0, 4, 9, 30, 30);
+        x.late(0, 1, 50);
+        x.connect(-1);
+        Checks.until(x, 49);
+        x.late(0, 1, 2);
+        x.write(0, 30);
+        Checks.until(x, 54);
+        Checks.due("at once for 1, not for 2", x.count(4) * 10 + x.packet(2, 6), 11);
+        x.loseState();
+        Checks.until(x, 56);
+        Checks.due("0 is taken", x.packet(0, 6), 1);
+        Checks.due("it waits", x.count(4), 1);
+        Checks.until(x, 58);
+        Checks.due("it waits", x.count(4), 1);
+        x.tick(1);
+        Checks.due("3 ticks later", x.count(4), 2);
     }
 }

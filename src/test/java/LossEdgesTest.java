@@ -39,6 +39,10 @@ final class LossEdgesTest {
         probeWhileSayingHello();
         probeWhileClosing();
         probeWithTheKeyOfNow();
+        probesAreDoubledAtMostSixTimes();
+        threeBehindIsLostOnThePathOne();
+        byTimeOnThePathOne();
+        countsOfThePathOne();
         Checks.end("LossEdgesTest");
     }
 
@@ -545,5 +549,77 @@ final class LossEdgesTest {
         Checks.due("changeKey", x.changeKey(), 1);
         probesAt(x, 50, 1);
         Checks.due("the keys", x.packet(1, 7) + 10 * x.packet(2, 7), 10);
+    }
+
+    /** "doubled .., at most 6 times": 1, 2 and 3 behind 12 is 18, then 12, 24, 48, 96, 192, 384, and 384 ever after */
+    private static void probesAreDoubledAtMostSixTimes() {
+        Tidewater x = new Tidewater();
+        x.connect(-1);
+        Checks.until(x, 11);
+        Checks.due("a measure of 1", x.path(0, 3), 8);
+        x.setUp(0, false);
+        x.write(0, 10);
+        int[] at = {18, 30, 54, 102, 198, 390, 774, 1158, 1542, 1926};
+        for (int i = 0; i < at.length; i++) {
+            probesAt(x, at[i], i + 1);
+        }
+    }
+
+    /** Uses the path 1 from 70 on, by a delay of 30; of the packets of 71 the first one is gone. */
+    private static Tidewater slowPathOne(int bytes) {
+        Tidewater x = Checks.established();
+        x.setPath(1, 30, 9, 30, 30);
+        x.check(1);
+        Checks.until(x, 70);
+        x.use(1);
+        x.lose(1, true, 1);
+        x.write(0, bytes);
+        Checks.until(x, 130);
+        Checks.due("gone", x.packet(0, 6) + 10 * x.packet(0, 0), 13);
+        return x;
+    }
+
+    /** "then losses by order, and by time, of the path 0, then 1" */
+    private static void threeBehindIsLostOnThePathOne() {
+        Tidewater x = slowPathOne(40);
+        Checks.until(x, 131);
+        Checks.due("1 is acknowledged", x.packet(1, 5), ACKNOWLEDGED);
+        Checks.due("not lost", x.packet(0, 5), IN_FLIGHT);
+        x.tick(1);
+        Checks.due("3 is acknowledged", x.packet(3, 5), ACKNOWLEDGED);
+        Checks.due("lost", x.packet(0, 5), LOST);
+    }
+
+    /** "4. the client looks for losses by time, of the path 0, then 1": 70 ticks by a measure of 63, behind 71 */
+    private static void byTimeOnThePathOne() {
+        Tidewater x = slowPathOne(30);
+        Checks.until(x, 135);
+        Checks.due("2 is acknowledged", x.packet(2, 5), ACKNOWLEDGED);
+        isMeasured(x, 1, 483, 93, 60, 63);
+        Checks.until(x, 140);
+        Checks.due("not lost", x.packet(0, 5), IN_FLIGHT);
+        x.tick(1);
+        Checks.due("lost", x.packet(0, 5), LOST);
+    }
+
+    /** "Counts: 0 losses, 1 losses that were none, 2 probes, .. 5 harms that counted": of both paths together */
+    private static void countsOfThePathOne() {
+        Tidewater x = Checks.checked();
+        x.use(1);
+        x.late(1, 1, 7);
+        x.write(0, 40);
+        Checks.until(x, 28);
+        Checks.due("losses", x.count(0), 1);
+        Checks.due("harms", x.count(5), 1);
+        Checks.until(x, 33);
+        Checks.due("losses that were none", x.count(1), 0);
+        x.tick(1);
+        Checks.due("losses that were none", x.count(1), 1);
+        Checks.due("lost and acknowledged then", x.packet(0, 5) + 10 * x.packet(0, 0), 10 + LOST_AND_ACKNOWLEDGED);
+        Checks.due("probes", x.count(2), 0);
+        x.lose(1, true, 20);
+        x.write(1, 10);
+        Checks.until(x, 100);
+        Checks.due("probes", x.count(2) > 0, true);
     }
 }

@@ -27,6 +27,8 @@ final class StreamEdgesTest {
         creditsThatAreLess();
         readsWhatIsThere();
         readsBehindAGap();
+        oneLostByte();
+        gotOfEachStream();
         Checks.end("StreamEdgesTest");
     }
 
@@ -414,5 +416,30 @@ final class StreamEdgesTest {
         Checks.due("all in order", x.stream(0, 5), 30);
         Checks.due("found anew", x.gotAnew(0), 30);
         Checks.due("read", x.read(0, 200), 30);
+    }
+
+    /** "as many as are lost one behind the other": 1 */
+    private static void oneLostByte() {
+        Tidewater x = Checks.established();
+        x.lose(0, true, 1);
+        x.write(1, 1);
+        x.tick(1);
+        x.write(2, 30);
+        Checks.until(x, 30);
+        isPacket(x, 4, 1, 0, 1);
+        Checks.due("got", x.stream(1, 5), 1);
+        Checks.due("lost no more", x.stream(1, 3), 0);
+    }
+
+    /** "found from what became of all packets, put into one row": of a stream that has less than the one asked ahead */
+    private static void gotOfEachStream() {
+        Tidewater x = Checks.established();
+        x.write(0, 20);
+        x.write(1, 7);
+        Checks.until(x, 30);
+        int[] got = {20, 7, 0, 0};
+        for (int i = 0; i < 8; i++) {
+            Checks.due("got of " + i % 4, x.gotAnew(i % 4), got[i % 4]);
+        }
     }
 }

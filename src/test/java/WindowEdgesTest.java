@@ -37,6 +37,12 @@ final class WindowEdgesTest {
         perTickByATimeOfNothing();
         perTickOfEachPath();
         fewerInFlightOrTheLowerOne();
+        aimFarBehindTheHarm();
+        leastThirdPower();
+        ratesOfASlowPath();
+        windowsOfTwoPackets();
+        perTickOfNoWholePackets();
+        perTickByASmallTime();
         Checks.end("WindowEdgesTest");
     }
 
@@ -605,5 +611,114 @@ final class WindowEdgesTest {
         for (int i = 0; i < 4; i++) {
             Checks.due("the path of " + i, y.packet(i, 0), other[i]);
         }
+    }
+
+    /** "twice the third power of c less k, divided by 125": 75 less 15, which makes an aim of 176 and 3456 */
+    private static void aimFarBehindTheHarm() {
+        Tidewater x = harmedByACube(1);
+        mark(x, 4, 30);
+        Checks.until(x, 84);
+        x.write(1, 10);
+        Checks.until(x, 95);
+        isWindow(x, 0, 123, 123);
+        x.tick(1);
+        // 16 times 3509, by 123, is 456
+        isWindow(x, 0, 579, 123);
+    }
+
+    /** "the window is 2 times the greatest of the last 8 rates, times the least measure": 16 by 63 ticks is 0 */
+    private static void ratesOfASlowPath() {
+        Tidewater x = Checks.established();
+        x.setPath(1, 30, 9, 30, 30);
+        x.check(1);
+        Checks.until(x, 70);
+        x.use(1);
+        x.setWay(1, RATES);
+        x.write(0, 10);
+        Checks.until(x, 134);
+        Checks.due("acknowledged", x.packet(0, 5), 1);
+        isWindow(x, 1, 64, 999999);
+        Checks.until(x, 164);
+        Checks.due("its probe, too", x.packet(1, 5) + x.packet(1, 8), 2);
+        Checks.due("the least measure", x.path(1, 5) > 32, true);
+        isWindow(x, 1, 64, 999999);
+    }
+
+    /** "if its packets in flight and one more, times 16, are at most the window": 2 packets by 45, and by 32 */
+    private static void windowsOfTwoPackets() {
+        for (int harms = 2; harms <= 3; harms++) {
+            Tidewater x = Checks.established();
+            mark(x, 4, 0);
+            for (int i = 0; i < harms; i++) {
+                Checks.until(x, 9 + 20 * i);
+                sendOne(x, i, 10);
+            }
+            Checks.due("the window", x.path(0, 0), harms == 2 ? 45 : 32);
+            x.lose(0, true, 20);
+            x.write(3, 40);
+            x.tick(10);
+            Checks.due("in flight", x.path(0, 2), 2);
+        }
+    }
+
+    /** "the window, divided by 16, times 2": 151 makes 18, which is 2 by 9 */
+    private static void perTickOfNoWholePackets() {
+        Tidewater x = Checks.established();
+        x.setWay(0, CUBE);
+        x.lose(0, true, 1);
+        x.write(0, 40);
+        Checks.until(x, 30);
+        isWindow(x, 0, 151, 145);
+        Checks.due("the time divided by 8", x.path(0, 3) / 8, 9);
+        int packets = x.packets();
+        x.write(1, 40);
+        x.tick(1);
+        Checks.due("2", x.packets(), packets + 2);
+        x.tick(1);
+        Checks.due("2 more", x.packets(), packets + 4);
+    }
+
+    /** "rounded up": 22 by 3 is 8 */
+    private static void perTickByASmallTime() {
+        Tidewater x = new Tidewater();
+        x.setPath(0, 1, 9, 30, 30);
+        x.connect(-1);
+        Checks.until(x, 3);
+        Checks.due("the time", x.path(0, 3), 24);
+        sendOne(x, 0, 1);
+        Checks.due("the time", x.path(0, 3), 26);
+        isWindow(x, 0, 176, 999999);
+        x.write(0, 39);
+        x.write(1, 40);
+        x.write(2, 20);
+        x.tick(1);
+        Checks.due("8 in a tick", x.packets(), 9);
+    }
+
+    /** "k the least number of which the third power, twice, divided by 125, is 3 times w, divided by 10, or more" */
+    private static void leastThirdPower() {
+        Tidewater x = Checks.established();
+        x.setWay(0, CUBE);
+        x.lose(0, true, 1);
+        x.write(0, 40);
+        Checks.until(x, 19);
+        isWindow(x, 0, 145, 145);
+        x.setWay(0, ROUNDS);
+        Checks.until(x, 30);
+        sendOne(x, 1, 10);
+        isWindow(x, 0, 147, 145);
+        mark(x, 4, 0);
+        sendOne(x, 1, 10);
+        Checks.due("now", x.now(), 54);
+        isWindow(x, 0, 74, 74);
+        x.setWay(0, CUBE);
+        mark(x, 4, 30);
+        Checks.until(x, 67);
+        x.write(1, 10);
+        Checks.until(x, 78);
+        isWindow(x, 0, 74, 74);
+        x.tick(1);
+        // w is 148, of which 44 is asked for: 14 makes 43, 15 makes 54; 25 less 15 makes an aim of 164
+        isWindow(x, 0, 93, 74);
     }
 }
