@@ -35,6 +35,7 @@ final class EndEdgesTest {
         loseStateFromEachState();
         loseStateKeepsWhatWasGot();
         loseStateKeepsTheKey();
+        loseStateKeepsTheKeyBefore();
         loseStateAndCookies();
         loseStateAheadOfHello();
         loseStateKnowsNoNumbers();
@@ -430,6 +431,37 @@ final class EndEdgesTest {
         x.loseState();
         Checks.due("of the server", x.state(3), 1);
         Checks.due("of the client", x.state(2), 1);
+    }
+
+    /**
+     * "keeps the one before in 8 ticks", and what the state's loss names is not that one: 2 brings the key 1 at 54, and
+     * 1, with the key 0, comes at 61 or 62; between them the state is lost, and the late HELLO comes at 55.
+     */
+    private static void loseStateKeepsTheKeyBefore() {
+        for (int more = 0; more <= 1; more++) {
+            Tidewater x = new Tidewater();
+            x.setPath(0, 4, 9, 30, 30);
+            x.late(0, 1, 50);
+            x.connect(-1);
+            Checks.until(x, 30);
+            x.write(0, 10);
+            Checks.until(x, 46);
+            Checks.due("acknowledged", x.packet(0, 5), 1);
+            x.write(0, 10);
+            x.late(0, 1, 10 + more);
+            Checks.until(x, 49);
+            Checks.due("the key", x.changeKey(), 1);
+            x.write(0, 10);
+            Checks.until(x, 54);
+            Checks.due("of the server", x.state(3), 1);
+            x.loseState();
+            x.tick(1);
+            Checks.due("established again", x.state(1), 1);
+            Checks.until(x, 60 + more);
+            Checks.due("under way", x.packet(1, 6) * 10 + x.packet(1, 7), 0);
+            x.tick(1);
+            Checks.due("with the one before", x.packet(1, 6), 1 + more);
+        }
     }
 
     /** "if it asks for cookies, and there is none in it, it answers with COOKIE, and knows nothing of it" */

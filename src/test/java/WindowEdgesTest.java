@@ -19,6 +19,8 @@ final class WindowEdgesTest {
         lastEightRates();
         ratesOfWhatWasInFlight();
         harmByRates();
+        takenBackByRates();
+        ratesOfALeastMeasureOfNothing();
         harmOfWhatWasSentAhead();
         harmOfTheFirstOneSentSince();
         harmsOfEachPath();
@@ -305,6 +307,44 @@ final class WindowEdgesTest {
         isWindow(x, 0, Math.max(96, window), 999999);
     }
 
+    /**
+     * "If a packet by which a harm counted turns out to be none that was lost .., window and bound are again as they
+     * were ahead of it": by rates too. 0 is lost by time at 19, with a window of 176; the rate of 2 makes it 64.
+     */
+    private static void takenBackByRates() {
+        Tidewater x = Checks.established();
+        x.late(0, 1, 30);
+        x.write(0, 20);
+        Checks.until(x, 18);
+        isWindow(x, 0, 176, 999999);
+        x.setWay(0, RATES);
+        x.tick(1);
+        Checks.due("0 is lost", x.packet(0, 5), 2);
+        Checks.due("a harm", x.count(5), 1);
+        isWindow(x, 0, 176, 999999);
+        Checks.until(x, 30);
+        Checks.due("2 is acknowledged", x.packet(2, 5), 1);
+        isWindow(x, 0, 64, 999999);
+        Checks.until(x, 47);
+        isWindow(x, 0, 64, 999999);
+        x.tick(1);
+        Checks.due("none that was lost", x.packet(0, 5), 3);
+        isWindow(x, 0, 176, 999999);
+    }
+
+    /** "2 times the greatest of the last 8 rates, times the least measure, but at least 64": the rate is 64, times 0 */
+    private static void ratesOfALeastMeasureOfNothing() {
+        Tidewater x = measureOfNothing();
+        x.setPath(0, 1, 9, 30, 30);
+        x.setWay(0, RATES);
+        writeAll(x);
+        Checks.until(x, 15);
+        Checks.due("8 are acknowledged", x.packet(7, 5) * 10 + x.packet(8, 5), 10);
+        Checks.due("the latest measure", x.path(0, 6), 2);
+        Checks.due("the least measure", x.path(0, 5), 0);
+        isWindow(x, 0, 64, 999999);
+    }
+
     /** 0 is gone and lost at 19, a harm; 4 was sent at 18, 5 at 19. */
     private static Tidewater harmed(int lateBy) {
         Tidewater x = Checks.established();
@@ -557,8 +597,8 @@ final class WindowEdgesTest {
         Checks.due("2 more", x.packets(), 4);
     }
 
-    /** "divided by the time divided by 8, but that at least 1": a time of 0, and of 8 */
-    private static void perTickByATimeOfNothing() {
+    /** COOKIE and ACCEPT are due at 13: the hello that COOKIE lets it say is answered in no time; now is 12. */
+    private static Tidewater measureOfNothing() {
         Tidewater x = new Tidewater();
         x.setPath(0, 6, 9, 30, 30);
         x.setCookies(true);
@@ -569,6 +609,12 @@ final class WindowEdgesTest {
         x.tick(1);
         x.setPath(0, 2, 9, 30, 30);
         Checks.until(x, 12);
+        return x;
+    }
+
+    /** "divided by the time divided by 8, but that at least 1": a time of 0, and of 8 */
+    private static void perTickByATimeOfNothing() {
+        Tidewater x = measureOfNothing();
         writeAll(x);
         x.tick(1);
         Checks.due("the time", x.path(0, 3), 0);
